@@ -1396,8 +1396,14 @@ public final class WaterThanks {
                 return 0;
             }
             int body = BODIES[4 * kind + act];
-            begin(body);
-            int deeper = depth + 1;
+            if (ranCount < MOST_RAN) {
+                ran[ranCount] = body;
+                ranCount++;
+            }
+            return answerOf(body, x, depth + 1);
+        }
+
+        private int answerOf(int body, int x, int deeper) {
             switch (body) {
                 case 10:
                     return x + a;
@@ -1431,13 +1437,6 @@ public final class WaterThanks {
                     return perform(self, LETS, x, deeper) + perform(self, PAYS, n, deeper);
                 default:
                     return 0;
-            }
-        }
-
-        private void begin(int body) {
-            if (ranCount < MOST_RAN) {
-                ran[ranCount] = body;
-                ranCount++;
             }
         }
 

@@ -274,6 +274,14 @@ final class HostTest {
         acts(x, 6, 1, 1, 5, 3, 71, 70);
         acts(x, 6, 1, 2, 5, 7, 72);
         acts(x, 6, 1, 3, 5, 3 + 3, 73, 71, 70, 72);
+        // of village 1 shares of 4 by DOWN and by EQUAL: parted by 3
+        WaterThanks y = Check.villages(1, 1);
+        Check.worths(y, 0, 4);
+        Check.worths(y, 1, 4);
+        acts(y, 3, 1, 3, 5, (27 * 2 + 4 ^ 1) + 2 / 3, 41, 13, 40, 11, 30, 10, 12);
+        acts(y, 5, 1, 3, 5, ((27 ^ 4) * 2 + 4 ^ 1) + 4 / 3, 41, 13, 40, 11, 60, 30, 10, 61, 12);
+        Check.worths(y, 1, 2);
+        acts(y, 3, 1, 3, 5, (21 * 2 + 2 ^ 1) + 2 / 1, 41, 13, 40, 11, 30, 10, 12);
         acts(x, 0, 0, 0, MAX, MIN + 44, 10);
         acts(x, 6, 0, 0, MIN, MAX - 5, 70);
         acts(x, 0, 1, 1, MAX, (MAX + 30) * 2, 11, 10);

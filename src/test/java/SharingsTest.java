@@ -260,6 +260,19 @@ final class SharingsTest {
         for (int v = 0; v < 4; v++) {
             Check.due("15: less first, " + v, x.cleaning(v), dueLess[v]);
         }
+        // nothing may pass the one above the last: the second one cleans all, for less than the first
+        WaterThanks z = Check.villages(0, 0, 0);
+        z.set(0, 3, 2);
+        z.set(1, 3, 1);
+        z.set(0, 5, 3);
+        z.set(1, 5, 2);
+        z.set(2, 4, 0);
+        Check.due("15: all at the second", z.cleaning(-1), 6);
+        Check.due("15: all three", z.cleaning(1), 3);
+        z.set(1, 5, 3);
+        Check.due("15: as dear at both", z.cleaning(0), 0);
+        z.set(1, 5, 4);
+        Check.due("15: dearer below", z.cleaning(0), 2);
         WaterThanks y = Check.villages(0, 0, 0, 0, 0, 0);
         for (int v = 0; v < 6; v++) {
             y.set(v, 3, 20);

@@ -78,7 +78,13 @@ final class TreatyTest {
         fault(x, "  lets 0 1;", 2);
         fault(x, "le 0 1;", 0);
         fault(x, "Let 0 1;", 0);
-        fault(x, "letx 0 1;", 0);
+        fault(x, "leta 0 1;", 0);
+        fault(x, "letz 0 1;", 0);
+        fault(x, "let 0 1z;", 7);
+        fault(x, "let 0 1`;", 7);
+        fault(x, "let 0 1{;", 7);
+        fault(x, "let 0 1/;", 7);
+        fault(x, "let 0 1:;", 7);
         fault(x, "if 0 1;", 0);
         fault(x, "let", 3);
         fault(x, "let  ", 5);
@@ -173,6 +179,10 @@ final class TreatyTest {
     }
 
     private static void promise21Conditions() {
+        holds("0 < wet", true);
+        holds("wet > 0", true);
+        holds("0 = 0", true);
+        holds("0 = 00 and 9 = 009 and 90 > 89", true);
         holds("wet = 7", true);
         holds("wet = 8", false);
         holds("comes = 7", true);
@@ -321,5 +331,12 @@ final class TreatyTest {
         Check.due("25: wet -1", x.breaks(-1), -1);
         Check.due("25: extremes", x.breaks(MAX), -1);
         Check.due("25: no village", new WaterThanks().breaks(10), -9);
+        // what it let pass was harmful: letting less pass makes more by what harms no more, too
+        WaterThanks y = Check.villages(5);
+        Check.worths(y, 0, 1, 1, 1, 1, 1);
+        y.set(0, 1, 0);
+        y.set(0, 2, 9);
+        Check.read(y, "let 0 3;");
+        Check.due("25: harmed by what it lets pass", y.breaks(10), 0);
     }
 }
