@@ -273,6 +273,15 @@ final class SharingsTest {
         Check.due("15: as dear at both", z.cleaning(0), 0);
         z.set(1, 5, 4);
         Check.due("15: dearer below", z.cleaning(0), 2);
+        // the second one is the last one again: what passes it may be as dirty as it is
+        WaterThanks u = Check.villages(0, 0);
+        u.set(1, 3, 7);
+        u.keep();
+        u.village(0);
+        u.set(2, 4, 3);
+        Check.due("15: cleaned for the third", u.cleaning(1), 4);
+        u.again();
+        Check.due("15: no third one any more", u.cleaning(1), 0);
         WaterThanks y = Check.villages(0, 0, 0, 0, 0, 0);
         for (int v = 0; v < 6; v++) {
             y.set(v, 3, 20);

@@ -182,6 +182,8 @@ final class TreatyTest {
         holds("0 < wet", true);
         holds("wet > 0", true);
         holds("0 = 0", true);
+        holds("0 < 0", false);
+        holds("0 < 0 or 0 < 0", false);
         holds("0 = 00 and 9 = 009 and 90 > 89", true);
         holds("wet = 7", true);
         holds("wet = 8", false);
