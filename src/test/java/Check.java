@@ -35,6 +35,11 @@ final class Check {
         return x;
     }
 
+    /** The first ones of these. */
+    static WaterThanks villages(int[] flows, int count) {
+        return villages(java.util.Arrays.copyOf(flows, count));
+    }
+
     static void fill(WaterThanks x, int sheet, int sort, int... items) {
         x.sheet(sheet, sort, items.length);
         for (int i = 0; i < items.length; i++) {
