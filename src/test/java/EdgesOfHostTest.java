@@ -181,6 +181,17 @@ final class EdgesOfHostTest {
                 }
             }
         }
+        // no place is asked of none, but it is taken for shorts
+        WaterThanks none = Check.villages(2);
+        Check.due("none of a missing sheet", none.flows(0, 2, 0, 0), -11);
+        for (int sort = 0; sort < 4; sort++) {
+            none.sheet(2, sort, 3);
+            Check.due("none of sort " + sort, none.flows(0, 2, 0, 0), sort == 1 ? 0 : -13);
+            Check.due("none from behind, of sort " + sort, none.flows(0, 2, 3, 0), sort == 1 ? 0 : -13);
+            Check.due("none from before, of sort " + sort, none.flows(0, 2, -1, 0), sort == 1 ? 0 : -13);
+        }
+        Check.due("none of a village that isn't", none.flows(2, 2, 0, 0), -1);
+        Check.due("the flow stays", none.villageOf(0, 0), 2);
         // such as are left out are none that became, but what is outside behind them is outside
         WaterThanks x = Check.villages(1);
         Check.fill(x, 0, 1, 99, 4);
